@@ -1,3 +1,5 @@
+import java.util.function.Consumer;
+
 /** Promises 35 to 40: format, and going back by undo and snapshot. */
 public final class BackTest {
     private static final String ROUND = "house 4;door 0 1;door 1 2;door 2 3;door 3 0;guard 0 1 2 3;guard 0 1 2 3;";
@@ -72,15 +74,15 @@ public final class BackTest {
         Check.due("undo() of nothing", x.undo(), -1);
         String[] states = new String[14];
         for (int i = 0; i < 13; i++) {
-            states[i] = facts(x);
+            states[i] = rooms(x);
             x.pass(i + 1);
         }
         for (int i = 12; i >= 3; i--) {
             Check.due("undo()", x.undo(), i - 3);
-            Check.due("state after undo", facts(x), states[i]);
+            Check.due("state after undo", rooms(x), states[i]);
         }
         Check.due("undo() of the eleventh operation", x.undo(), -1);
-        Check.due("state", facts(x), states[3]);
+        Check.due("state", rooms(x), states[3]);
         x.shift(0, 1);
         x.shift(0, 2);
         x.undo();
@@ -97,20 +99,37 @@ public final class BackTest {
         return state.substring(0, state.indexOf("undo"));
     }
 
+    /** The minute and the properties of the rooms, in few calls. */
+    private static String rooms(GuardWalks x) {
+        StringBuilder text = new StringBuilder().append(x.size(4));
+        for (int room = 0; room < 2; room++) {
+            for (int what = 4; what < 8; what++) {
+                text.append(' ').append(x.room(room, what));
+            }
+        }
+        return text.toString();
+    }
+
     private static void undoEachOperation() {
+        dueUndone("pass", x -> x.pass(3));
+        dueUndone("shift", x -> x.shift(1, 3));
+        dueUndone("adopt", GuardWalks::adopt);
+        dueUndone("closeDoor", x -> x.closeDoor(4));
+        dueUndone("openDoor", x -> x.openDoor(5));
+        dueUndone("setLimit", x -> x.setLimit(2, 0));
+        dueUndone("change", x -> Check.change(x, "walk 0 3 2 2"));
+    }
+
+    private static void dueUndone(String name, Consumer<GuardWalks> operation) {
         GuardWalks x = Check.loaded(ROUND + "door 0 2;door 1 3 closed;");
         x.pass(9);
         String before = Check.state(x);
-        Runnable[] operations = {() -> x.pass(3), () -> x.shift(1, 3), x::adopt, () -> x.closeDoor(4), () -> x.openDoor(5),
-            () -> x.setLimit(2, 0), () -> Check.change(x, "walk 0 3 2 2")};
-        for (int i = 0; i < operations.length; i++) {
-            operations[i].run();
-            Check.due("another state after operation " + i, Check.state(x).equals(before), false);
-            Check.due("undo() of operation " + i, x.undo(), 1);
-            Check.due("state after undo of operation " + i, Check.state(x), before);
-        }
-        Check.due("joined after undo of closeDoor", x.isJoined(0, 2), true);
-        Check.due("joined after undo of openDoor", x.isJoined(1, 3), false);
+        operation.accept(x);
+        Check.due("another state after " + name, Check.state(x).equals(before), false);
+        Check.due("undo() of " + name, x.undo(), 1);
+        Check.due("state after undo of " + name, Check.state(x), before);
+        Check.due("joined after undo of " + name, x.isJoined(0, 2), true);
+        Check.due("not joined after undo of " + name, x.isJoined(1, 3), false);
     }
 
     private static void undoKeepsBufferAndErrors() {
