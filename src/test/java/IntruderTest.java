@@ -115,7 +115,9 @@ public final class IntruderTest {
     private static void seenRate() {
         GuardWalks x = Check.loaded(RoundsTest.HOUSE);
         Check.dueExactly("seenRate() at minute 0", x.seenRate(), 0.0);
-        x.pass(7);
+        x.pass(1);
+        Check.dueExactly("seenRate() at minute 1", x.seenRate(), 2.0);
+        x.pass(6);
         // two rooms each minute but at 1, 2 and 6
         Check.dueExactly("seenRate() at minute 7", x.seenRate(), 11.0f / 7.0f);
         x.pass(500);

@@ -76,7 +76,9 @@ public final class OperationsTest {
         Check.due("worst gap", x.size(5), 1);
         Check.due("shift(0, 1)", x.shift(0, 1), 2);
         Check.due("shift to the same phase", x.shift(0, 1), 2);
-        Check.due("undoCount()", x.undoCount(), 3);
+        Check.due("shift to the first phase", x.shift(0, 0), 1);
+        Check.due("shift to the last phase", x.shift(0, 3), 2);
+        Check.due("undoCount()", x.undoCount(), 5);
         String before = Check.state(x);
         Check.dueNoSuch("shift(2, -1)", () -> x.shift(2, -1));
         Check.dueNoSuch("shift(-1, 0)", () -> x.shift(-1, 0));
@@ -87,6 +89,7 @@ public final class OperationsTest {
 
     private static void adopt() {
         GuardWalks x = Check.loaded(ROUND + "guard 0 1 2 3 phase 3;guard 0 1 2 3 phase 3;");
+        Check.due("worst gap before adopt", x.size(5), 3);
         Check.due("adopt()", x.adopt(), 2);
         Check.due("phase of guard 0", x.guard(0, 1), 0);
         Check.due("phase of guard 1", x.guard(1, 1), 2);

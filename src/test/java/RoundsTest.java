@@ -200,6 +200,7 @@ public final class RoundsTest {
         for (int room = 0; room < 5; room++) {
             Check.due("gapFrom(" + room + ")", x.gapFrom(room), due[room]);
         }
+        Check.due("gapFrom of gaps of one minute", Check.loaded("house 2;door 0 1;guard 0 1 0 1;").gapFrom(1), 0);
         Check.due("gapFrom of a room that is always seen", Check.loaded("house 1;guard 0 0;").gapFrom(0), -1);
         Check.dueNoSuch("gapFrom(5)", () -> x.gapFrom(5));
         Check.dueNoSuch("gapFrom(-1)", () -> x.gapFrom(-1));

@@ -177,6 +177,7 @@ public final class TextTest {
         error("house 3;door 0 1;door 1 2;guard 0 1 2 door 0 1;", 1, 38);
         error("house 3;door 0 1;door 1 2;guard 0 1 2", 1, 37);
         error("house 3;door 0 1;door 1 2;guard 0 1 2 closed;", 1, 38);
+        error("house 3;door 0 1;door 1 2;guard 0 1 2 1 0 1 2 1 1 2;", 4, 51);
         error("house 3;guard 0", 1, 15);
         error("house 3;guard 0 phase;", 1, 21);
         error("house 3;guard 0 phase 1;", 2, 22);
@@ -198,6 +199,7 @@ public final class TextTest {
         x.setLimit(0, 3);
         x.saveSnapshot();
         x.format();
+        x.worstWith(0, 0);
         Check.due("load", Check.load(x, "house 4;"), 4);
         Check.due("state after load", Check.state(x), Check.state(Check.loaded("house 4;")));
         Check.due("undo() after load", x.undo(), -1);
