@@ -42,6 +42,10 @@ public final class IntruderTest {
         // with a second door between the rooms it is no better
         GuardWalks y = Check.loaded("house 2;door 0 1;door 0 1;guard 0 1;");
         Check.due("arrival past the guard through another door", y.arrival(1, 0, 0), -1);
+        // two guards come from both sides
+        GuardWalks both = Check.loaded("house 3;door 0 1;door 1 2;guard 0 1;guard 2 1;");
+        Check.due("arrival past one of two guards", both.arrival(1, 0, 0), -1);
+        Check.due("hiding from guards on both sides", both.hiding(1, 0, 1), 0);
         // a guard that goes on behind the intruder is followed, not passed
         GuardWalks z = Check.loaded("house 3;door 0 1;door 1 2;door 2 0;guard 0 1 2;");
         Check.due("arrival behind the guard", z.arrival(2, 0, 0), 1);

@@ -55,6 +55,10 @@ public final class QueryTest {
         Check.due("9999", Check.query(x, "many 9999 > 9998"), 6);
         Check.due("leading zeros", Check.query(x, "many room = 0000000000005"), 1);
         Check.due("no blanks", Check.query(x, "many room>2and room<4"), 1);
+        Check.feed(x, "many room < 12");
+        Check.due("a number up to the end of the first bytes", x.query(13), 1);
+        Check.feed(x, "many room = runs");
+        Check.due("a word up to the end of the first bytes", x.query(15), 1);
     }
 
     private static void manyAndFirst() {
@@ -106,6 +110,7 @@ public final class QueryTest {
     private static void errors() {
         error("", 1, 0);
         error("all room = 1", 1, 0);
+        error("fany room = 1", 1, 0);
         error("many", 1, 4);
         error("many = 1", 1, 5);
         error("many room", 1, 9);

@@ -87,6 +87,10 @@ public final class TextTest {
         Check.feed(x, "house 2;house 9;");
         Check.due("first bytes only", x.load(8), 2);
         Check.due("the rest of the buffer is gone", x.feed(0, 0, 0, 0, 0), 20);
+        x.load(0);
+        Check.feed(x, "house 12;");
+        Check.due("a number that goes on behind the first bytes", x.load(7), -11);
+        Check.due("the end of the text is behind the first bytes", x.errorPosition(), 7);
     }
 
     private static void loadTokens() {
@@ -121,6 +125,12 @@ public final class TextTest {
         error("", 1, 0);
         error("   ", 1, 3);
         error("house", 1, 5);
+        error("mouse 3;", 1, 0);
+        error("housez 3;", 1, 0);
+        error("house{3;", 1, 5);
+        error("house`3;", 1, 5);
+        error("house/3;", 1, 5);
+        error("house:3;", 1, 5);
         error("house ", 1, 6);
         error("house ;", 1, 6);
         error("house 3", 1, 7);
