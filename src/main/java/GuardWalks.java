@@ -308,7 +308,7 @@ public final class GuardWalks {
         BestPhases best = best();
         history.record(house);
         int changed = 0;
-        for (int guard = 0; guard < house.guards; guard++) {
+        for (int guard = 0; guard < house.guards && guard < MOST_GUARDS; guard++) {
             if (house.phases[guard] != best.phases[guard]) {
                 house.phases[guard] = best.phases[guard];
                 changed++;

@@ -93,12 +93,6 @@ public final class BackTest {
         Check.due("phase", x.guard(0, 1), 0);
     }
 
-    /** The state without the number of operations that can be undone. */
-    private static String facts(GuardWalks x) {
-        String state = Check.state(x);
-        return state.substring(0, state.indexOf("undo"));
-    }
-
     /** The minute and the properties of the rooms, in few calls. */
     private static String rooms(GuardWalks x) {
         StringBuilder text = new StringBuilder().append(x.size(4));
@@ -153,19 +147,19 @@ public final class BackTest {
         Check.due("restoreSnapshot() of none", x.restoreSnapshot(), false);
         x.pass(3);
         x.setLimit(1, 4);
-        String saved = facts(x);
+        String saved = Check.facts(x);
         x.saveSnapshot();
         x.pass(5);
         x.shift(0, 2);
         Check.change(x, "walk 1 3");
         x.closeDoor(0);
         Check.due("restoreSnapshot()", x.restoreSnapshot(), true);
-        Check.due("state after restoreSnapshot", facts(x), saved);
+        Check.due("state after restoreSnapshot", Check.facts(x), saved);
         Check.due("undoCount() after restoreSnapshot", x.undoCount(), 0);
         Check.due("undo() after restoreSnapshot", x.undo(), -1);
         x.pass(50);
         Check.due("restoreSnapshot() again", x.restoreSnapshot(), true);
-        Check.due("state after restoreSnapshot again", facts(x), saved);
+        Check.due("state after restoreSnapshot again", Check.facts(x), saved);
         x.pass(2);
         x.saveSnapshot();
         x.pass(2);

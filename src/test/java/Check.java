@@ -4,16 +4,26 @@ import java.nio.charset.StandardCharsets;
 final class Check {
     private static int wrong = 0;
     private static int made = 0;
+    private static String sentence = "";
 
     private Check() {
     }
 
-    static void due(String call, long got, long want) {
+    /** The sentence of the document that the answers from now on are checked for. */
+    static void sentence(String words) {
+        sentence = "(" + words + ") ";
+    }
+
+    private static void count(String call, boolean right, Object got, Object want) {
         made++;
-        if (got != want) {
+        if (!right) {
             wrong++;
-            System.out.println(call + " answered " + got + ", due is " + want);
+            System.out.println(sentence + call + " answered " + got + ", due is " + want);
         }
+    }
+
+    static void due(String call, long got, long want) {
+        count(call, got == want, got, want);
     }
 
     static void due(String call, boolean got, boolean want) {
@@ -21,19 +31,11 @@ final class Check {
     }
 
     static void due(String call, String got, String want) {
-        made++;
-        if (!got.equals(want)) {
-            wrong++;
-            System.out.println(call + " answered " + got + ", due is " + want);
-        }
+        count(call, got.equals(want), got, want);
     }
 
     static void dueExactly(String call, double got, double want) {
-        made++;
-        if (Double.compare(got, want) != 0) {
-            wrong++;
-            System.out.println(call + " answered " + got + ", due is " + want);
-        }
+        count(call, Double.compare(got, want) == 0, got, want);
     }
 
     /** The name of the exception that a call throws, or "nothing". */
@@ -90,11 +92,36 @@ final class Check {
     static GuardWalks loaded(String text) {
         GuardWalks x = new GuardWalks();
         int rooms = load(x, text);
-        if (rooms < 1) {
-            wrong++;
-            System.out.println("the text of a test has error " + rooms + " at " + x.errorPosition() + ": " + text);
-        }
+        count("load of " + text, rooms > 0, rooms + " at " + x.errorPosition(), "no error");
         return x;
+    }
+
+    /** A text that load refuses: with which code, and where. */
+    static void dueLoadError(String text, int code, int position) {
+        GuardWalks x = new GuardWalks();
+        due("load of " + text, load(x, text), -10 - code);
+        due("position of the error of " + text, x.errorPosition(), position);
+        due("rooms after " + text, x.size(0), 1);
+        due("buffer after " + text, x.feed(0, 0, 0, 0, 0), 20);
+    }
+
+    /** A change that this house refuses: with which code, and where. */
+    static void dueChangeError(String house, String text, int code, int position) {
+        GuardWalks x = loaded(house);
+        x.pass(1);
+        String before = state(x);
+        due("change of " + text, change(x, text), -10 - code);
+        due("position of the error of " + text, x.errorPosition(), position);
+        due("state after " + text, state(x), before);
+        due("buffer after " + text, x.feed(0, 0, 0, 0, 0), 20);
+    }
+
+    /** A query that a house of three rooms refuses: with which code, and where. */
+    static void dueQueryError(String text, int code, int position) {
+        GuardWalks x = loaded("house 3;");
+        due("query of " + text, query(x, text), GuardWalks.HIDDEN - code);
+        due("position of the error of " + text, x.errorPosition(), position);
+        due("buffer after " + text, x.feed(0, 0, 0, 0, 0), 20);
     }
 
     /** Everything that format tells, as a text. */
@@ -136,6 +163,12 @@ final class Check {
             }
         }
         return text.append("undo ").append(x.undoCount()).toString();
+    }
+
+    /** What state tells but for the operations that can be undone. */
+    static String facts(GuardWalks x) {
+        String state = state(x);
+        return state.substring(0, state.indexOf("undo"));
     }
 
     /** Ends a test: with exit code 1 if an answer was wrong. */

@@ -189,13 +189,7 @@ public final class OperationsTest {
     }
 
     private static void error(String text, int code, int position) {
-        GuardWalks x = Check.loaded(ROUND + "guard 0 1 phase 1;guard 3;");
-        x.setLimit(0, 7);
-        String before = Check.state(x);
-        Check.due("change of " + text, Check.change(x, text), -10 - code);
-        Check.due("position of the error of " + text, x.errorPosition(), position);
-        Check.due("state after " + text, Check.state(x), before);
-        Check.due("buffer after " + text, x.feed(0, 0, 0, 0, 0), 20);
+        Check.dueChangeError(ROUND + "limit 0 7;guard 0 1 phase 1;guard 3;", text, code, position);
     }
 
     private static void changeErrors() {

@@ -100,53 +100,46 @@ public final class QueryTest {
             Check.query(x, "many not (((((room=1 or (room=2))))))"), GuardWalks.HIDDEN - 3);
     }
 
-    private static void error(String text, int code, int position) {
-        GuardWalks x = Check.loaded("house 3;");
-        Check.due("query of " + text, Check.query(x, text), GuardWalks.HIDDEN - code);
-        Check.due("position of the error of " + text, x.errorPosition(), position);
-        Check.due("buffer after " + text, x.feed(0, 0, 0, 0, 0), 20);
-    }
-
     private static void errors() {
-        error("", 1, 0);
-        error("all room = 1", 1, 0);
-        error("fany room = 1", 1, 0);
-        error("many", 1, 4);
-        error("many = 1", 1, 5);
-        error("many room", 1, 9);
-        error("many room 1", 1, 10);
-        error("many room = ", 1, 12);
-        error("many room = =", 1, 12);
-        error("many room = 1 2", 1, 14);
-        error("many room = 1 or", 1, 16);
-        error("many room = 1 and or", 1, 18);
-        error("many room = 1 not room = 1", 1, 14);
-        error("many rooms = 1", 1, 5);
-        error("many gap = doo", 1, 11);
-        error("many phase = 1", 1, 5);
-        error("many 10000 = 1", 2, 5);
-        error("many room = 10000", 2, 12);
-        error("many room = 99999999999999999999", 2, 12);
-        error("many 1 = 1 first", 1, 11);
-        error("many many", 1, 5);
-        error("many room = 1;", 1, 13);
-        error("many room = 1)", 1, 13);
-        error("many (room = 1", 1, 14);
-        error("many (room = 1 2", 1, 15);
-        error("many ()", 1, 6);
-        error("many room <> 1", 1, 11);
-        error("many room = 1 10000", 1, 14);
-        error("10000", 1, 0);
+        Check.dueQueryError("", 1, 0);
+        Check.dueQueryError("all room = 1", 1, 0);
+        Check.dueQueryError("fany room = 1", 1, 0);
+        Check.dueQueryError("many", 1, 4);
+        Check.dueQueryError("many = 1", 1, 5);
+        Check.dueQueryError("many room", 1, 9);
+        Check.dueQueryError("many room 1", 1, 10);
+        Check.dueQueryError("many room = ", 1, 12);
+        Check.dueQueryError("many room = =", 1, 12);
+        Check.dueQueryError("many room = 1 2", 1, 14);
+        Check.dueQueryError("many room = 1 or", 1, 16);
+        Check.dueQueryError("many room = 1 and or", 1, 18);
+        Check.dueQueryError("many room = 1 not room = 1", 1, 14);
+        Check.dueQueryError("many rooms = 1", 1, 5);
+        Check.dueQueryError("many gap = doo", 1, 11);
+        Check.dueQueryError("many phase = 1", 1, 5);
+        Check.dueQueryError("many 10000 = 1", 2, 5);
+        Check.dueQueryError("many room = 10000", 2, 12);
+        Check.dueQueryError("many room = 99999999999999999999", 2, 12);
+        Check.dueQueryError("many 1 = 1 first", 1, 11);
+        Check.dueQueryError("many many", 1, 5);
+        Check.dueQueryError("many room = 1;", 1, 13);
+        Check.dueQueryError("many room = 1)", 1, 13);
+        Check.dueQueryError("many (room = 1", 1, 14);
+        Check.dueQueryError("many (room = 1 2", 1, 15);
+        Check.dueQueryError("many ()", 1, 6);
+        Check.dueQueryError("many room <> 1", 1, 11);
+        Check.dueQueryError("many room = 1 10000", 1, 14);
+        Check.dueQueryError("10000", 1, 0);
     }
 
     private static void nestingErrors() {
-        error("many (((((((room = 1)))))))", 3, 11);
-        error("many not not not not not not not room = 1", 3, 29);
-        error("many (not (not (not (", 3, 20);
-        error("many ((((((not", 3, 11);
-        error("many ((((((and", 1, 11);
-        error("many ((((((room = 1 or (room = 1)))))))", 3, 23);
-        error("many (room = 1) (", 1, 16);
+        Check.dueQueryError("many (((((((room = 1)))))))", 3, 11);
+        Check.dueQueryError("many not not not not not not not room = 1", 3, 29);
+        Check.dueQueryError("many (not (not (not (", 3, 20);
+        Check.dueQueryError("many ((((((not", 3, 11);
+        Check.dueQueryError("many ((((((and", 1, 11);
+        Check.dueQueryError("many ((((((room = 1 or (room = 1)))))))", 3, 23);
+        Check.dueQueryError("many (room = 1) (", 1, 16);
     }
 
     private static void queryRefusesLengths() {

@@ -113,94 +113,86 @@ public final class TextTest {
         Check.due("position of the word", x.errorPosition(), 16);
     }
 
-    private static void error(String text, int code, int position) {
-        GuardWalks x = new GuardWalks();
-        Check.due("load of " + text, Check.load(x, text), -10 - code);
-        Check.due("position of the error of " + text, x.errorPosition(), position);
-        Check.due("rooms after " + text, x.size(0), 1);
-        Check.due("buffer after " + text, x.feed(0, 0, 0, 0, 0), 20);
-    }
-
     private static void loadErrors() {
-        error("", 1, 0);
-        error("   ", 1, 3);
-        error("house", 1, 5);
-        error("mouse 3;", 1, 0);
-        error("housez 3;", 1, 0);
-        error("house{3;", 1, 5);
-        error("house`3;", 1, 5);
-        error("house/3;", 1, 5);
-        error("house:3;", 1, 5);
-        error("house ", 1, 6);
-        error("house ;", 1, 6);
-        error("house 3", 1, 7);
-        error("house 3 3;", 1, 8);
-        error("house 0;", 2, 6);
-        error("house 13;", 2, 6);
-        error("house 99999999999999999999999;", 2, 6);
-        error("house 4294967297;", 2, 6);
-        error("house 13", 2, 6);
-        error("house 3;;", 1, 8);
-        error("house 3;house 3;", 1, 8);
-        error("house 3;walk 0 1;", 1, 8);
-        error("house 3;limit", 1, 13);
-        error("house 3;limit 3 5;", 2, 14);
-        error("house 3;limit 2;", 1, 15);
-        error("house 3;limit 2 100;", 2, 16);
-        error("house 3;limit 2 99", 1, 18);
-        error("house 3;limit 2 99 5;", 1, 19);
-        error("house 3;limit closed 99;", 1, 14);
+        Check.dueLoadError("", 1, 0);
+        Check.dueLoadError("   ", 1, 3);
+        Check.dueLoadError("house", 1, 5);
+        Check.dueLoadError("mouse 3;", 1, 0);
+        Check.dueLoadError("housez 3;", 1, 0);
+        Check.dueLoadError("house{3;", 1, 5);
+        Check.dueLoadError("house`3;", 1, 5);
+        Check.dueLoadError("house/3;", 1, 5);
+        Check.dueLoadError("house:3;", 1, 5);
+        Check.dueLoadError("house ", 1, 6);
+        Check.dueLoadError("house ;", 1, 6);
+        Check.dueLoadError("house 3", 1, 7);
+        Check.dueLoadError("house 3 3;", 1, 8);
+        Check.dueLoadError("house 0;", 2, 6);
+        Check.dueLoadError("house 13;", 2, 6);
+        Check.dueLoadError("house 99999999999999999999999;", 2, 6);
+        Check.dueLoadError("house 4294967297;", 2, 6);
+        Check.dueLoadError("house 13", 2, 6);
+        Check.dueLoadError("house 3;;", 1, 8);
+        Check.dueLoadError("house 3;house 3;", 1, 8);
+        Check.dueLoadError("house 3;walk 0 1;", 1, 8);
+        Check.dueLoadError("house 3;limit", 1, 13);
+        Check.dueLoadError("house 3;limit 3 5;", 2, 14);
+        Check.dueLoadError("house 3;limit 2;", 1, 15);
+        Check.dueLoadError("house 3;limit 2 100;", 2, 16);
+        Check.dueLoadError("house 3;limit 2 99", 1, 18);
+        Check.dueLoadError("house 3;limit 2 99 5;", 1, 19);
+        Check.dueLoadError("house 3;limit closed 99;", 1, 14);
     }
 
     private static void loadErrorsOfDoors() {
-        error("house 3;door ;", 1, 13);
-        error("house 3;door 3 0;", 2, 13);
-        error("house 3;door 0;", 1, 14);
-        error("house 3;door 0 3;", 2, 15);
-        error("house 3;door 1 1;", 4, 15);
-        error("house 1;door 0 0;", 4, 15);
-        error("house 3;door 0 1", 1, 16);
-        error("house 3;door 0 1 1;", 1, 17);
-        error("house 3;door 0 1 open;", 1, 17);
-        error("house 3;door 0 1 closed", 1, 23);
-        error("house 3;door 0 1 closed closed;", 1, 24);
+        Check.dueLoadError("house 3;door ;", 1, 13);
+        Check.dueLoadError("house 3;door 3 0;", 2, 13);
+        Check.dueLoadError("house 3;door 0;", 1, 14);
+        Check.dueLoadError("house 3;door 0 3;", 2, 15);
+        Check.dueLoadError("house 3;door 1 1;", 4, 15);
+        Check.dueLoadError("house 1;door 0 0;", 4, 15);
+        Check.dueLoadError("house 3;door 0 1", 1, 16);
+        Check.dueLoadError("house 3;door 0 1 1;", 1, 17);
+        Check.dueLoadError("house 3;door 0 1 open;", 1, 17);
+        Check.dueLoadError("house 3;door 0 1 closed", 1, 23);
+        Check.dueLoadError("house 3;door 0 1 closed closed;", 1, 24);
         StringBuilder doors = new StringBuilder("house 3;");
         for (int door = 0; door < 20; door++) {
             doors.append("door 0 1;");
         }
-        error(doors + "door 0 0;", 3, 188);
-        error(doors + "door", 3, 188);
-        error(doors + "doo", 1, 188);
+        Check.dueLoadError(doors + "door 0 0;", 3, 188);
+        Check.dueLoadError(doors + "door", 3, 188);
+        Check.dueLoadError(doors + "doo", 1, 188);
     }
 
     private static void loadErrorsOfWalks() {
-        error("house 3;guard;", 1, 13);
-        error("house 3;guard phase 0;", 1, 14);
-        error("house 3;guard", 1, 13);
-        error("house 3;guard 3;", 2, 14);
-        error("house 3;guard 0 1;", 4, 16);
-        error("house 3;guard 0 3;", 2, 16);
-        error("house 3;door 0 1 closed;guard 0 1;", 4, 32);
-        error("house 3;guard 0 1;door 0 1;", 4, 16);
-        error("house 3;door 0 1;door 1 2;guard 0 1 2;", 4, 37);
-        error("house 3;door 0 1;door 1 2;guard 0 1 2 phase 0;", 4, 38);
-        error("house 3;door 0 1;door 1 2;guard 0 1 2 door 0 1;", 1, 38);
-        error("house 3;door 0 1;door 1 2;guard 0 1 2", 1, 37);
-        error("house 3;door 0 1;door 1 2;guard 0 1 2 closed;", 1, 38);
-        error("house 3;door 0 1;door 1 2;guard 0 1 2 1 0 1 2 1 1 2;", 4, 51);
-        error("house 3;guard 0", 1, 15);
-        error("house 3;guard 0 phase;", 1, 21);
-        error("house 3;guard 0 phase 1;", 2, 22);
-        error("house 3;guard 0 0 phase 2;", 2, 24);
-        error("house 3;guard 0 0 phase 1 1;", 1, 26);
-        error("house 3;guard 0 phase 0", 1, 23);
-        error("house 3;guard 0 phase 0 phase 0;", 1, 24);
-        error("house 3;guard 0 0 0 0 0 0 0 0 0 0 0;", 3, 34);
-        error("house 3;guard 0 0 0 0 0 0 0 0 0 0 1;", 3, 34);
-        error("house 3;guard 0 0 0 0 0 0 0 0 0 0 3;", 2, 34);
-        error("house 3;guard 0 0 0 0 0 0 0 0 0 0,", 1, 33);
-        error("house 3;guard 0;guard 0;guard 0;guard 0;guard 0;", 3, 40);
-        error("house 3;guard 0;guard 0;guard 0;guard 0;guards 0;", 1, 40);
+        Check.dueLoadError("house 3;guard;", 1, 13);
+        Check.dueLoadError("house 3;guard phase 0;", 1, 14);
+        Check.dueLoadError("house 3;guard", 1, 13);
+        Check.dueLoadError("house 3;guard 3;", 2, 14);
+        Check.dueLoadError("house 3;guard 0 1;", 4, 16);
+        Check.dueLoadError("house 3;guard 0 3;", 2, 16);
+        Check.dueLoadError("house 3;door 0 1 closed;guard 0 1;", 4, 32);
+        Check.dueLoadError("house 3;guard 0 1;door 0 1;", 4, 16);
+        Check.dueLoadError("house 3;door 0 1;door 1 2;guard 0 1 2;", 4, 37);
+        Check.dueLoadError("house 3;door 0 1;door 1 2;guard 0 1 2 phase 0;", 4, 38);
+        Check.dueLoadError("house 3;door 0 1;door 1 2;guard 0 1 2 door 0 1;", 1, 38);
+        Check.dueLoadError("house 3;door 0 1;door 1 2;guard 0 1 2", 1, 37);
+        Check.dueLoadError("house 3;door 0 1;door 1 2;guard 0 1 2 closed;", 1, 38);
+        Check.dueLoadError("house 3;door 0 1;door 1 2;guard 0 1 2 1 0 1 2 1 1 2;", 4, 51);
+        Check.dueLoadError("house 3;guard 0", 1, 15);
+        Check.dueLoadError("house 3;guard 0 phase;", 1, 21);
+        Check.dueLoadError("house 3;guard 0 phase 1;", 2, 22);
+        Check.dueLoadError("house 3;guard 0 0 phase 2;", 2, 24);
+        Check.dueLoadError("house 3;guard 0 0 phase 1 1;", 1, 26);
+        Check.dueLoadError("house 3;guard 0 phase 0", 1, 23);
+        Check.dueLoadError("house 3;guard 0 phase 0 phase 0;", 1, 24);
+        Check.dueLoadError("house 3;guard 0 0 0 0 0 0 0 0 0 0 0;", 3, 34);
+        Check.dueLoadError("house 3;guard 0 0 0 0 0 0 0 0 0 0 1;", 3, 34);
+        Check.dueLoadError("house 3;guard 0 0 0 0 0 0 0 0 0 0 3;", 2, 34);
+        Check.dueLoadError("house 3;guard 0 0 0 0 0 0 0 0 0 0,", 1, 33);
+        Check.dueLoadError("house 3;guard 0;guard 0;guard 0;guard 0;guard 0;", 3, 40);
+        Check.dueLoadError("house 3;guard 0;guard 0;guard 0;guard 0;guards 0;", 1, 40);
     }
 
     private static void loadReplacesEverything() {
