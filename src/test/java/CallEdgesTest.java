@@ -352,6 +352,13 @@ public final class CallEdgesTest {
         for (int phase = 0; phase < 4; phase++) {
             Check.due("worstWith(1, " + phase + ")", x.worstWith(1, phase), due[phase]);
         }
+        x.shift(0, 1);
+        int[] shifted = {1, 0, 1, 2};
+        for (int phase = 0; phase < 4; phase++) {
+            Check.due("worstWith(1, " + phase + ") beside a shifted guard", x.worstWith(1, phase), shifted[phase]);
+        }
+        x.undo();
+        Check.due("worstWith(1, 1) after undo", x.worstWith(1, 1), 1);
         Check.due("the phase it has", x.guard(1, 1), 2);
         Check.due("the worst gap it has", x.size(5), 2);
         Check.due("undoCount()", x.undoCount(), 0);

@@ -9,7 +9,10 @@ public final class IntruderEdgesTest {
         neverWhereAGuardIs();
         neverWhereAnyGuardIs();
         neverPassingAGuard();
+        passedGuardsBarNothing();
         firstMinute();
+        firstMinuteOfALaterCycle();
+        firstMinuteOfTheLongestCycle();
         beginsInTheSameRoom();
         neverArriving();
         minuteOfArrival();
@@ -104,6 +107,16 @@ public final class IntruderEdgesTest {
         Check.due("hiding(1, 1, 1)", end.hiding(1, 1, 1), 2);
     }
 
+    private static void passedGuardsBarNothing() {
+        Check.sentence("and never passes a guard (at this minute)");
+        // from 0 to 1 the guard goes at 0; from 1 to 0 an intruder may go later
+        GuardWalks x = Check.loaded("house 4;door 0 1;door 1 2;door 1 3;guard 0 1 3 3 3 1;");
+        Check.due("arrival(2, 0, 0)", x.arrival(2, 0, 0), 3);
+        Check.due("hiding(2, 0, 1)", x.hiding(2, 0, 1), 4);
+        Check.due("hiding(2, 0, 2)", x.hiding(2, 0, 2), 2 + 4);
+        Check.due("hiding(2, 0, 3)", x.hiding(2, 0, 3), 1 + 2 + 4);
+    }
+
     private static void firstMinute() {
         Check.sentence("The intruder arrives at the first minute at which this leads into the room that is wanted");
         GuardWalks x = Check.loaded(ROW + "door 0 2;");
@@ -115,6 +128,35 @@ public final class IntruderEdgesTest {
         Check.due("arrival(0, 2, 4)", y.arrival(0, 2, 4), 8);
         // room 3 is free at 0 and 1, but then the guard is on the only way to it
         Check.due("arrival(2, 3, 0)", y.arrival(2, 3, 0), -1);
+    }
+
+    private static void firstMinuteOfALaterCycle() {
+        Check.sentence("the first minute at which this leads into the room that is wanted (cycles later)");
+        // a row from 0 to 6; the rooms 1, 3 and 5 are free at 5, 11, 17 .. alone
+        GuardWalks x = Check.loaded("house 10;door 0 1;door 1 2;door 2 3;door 3 4;door 4 5;door 5 6;door 1 7;door 3 8;door 5 9;"
+            + "guard 1 1 1 1 1 7;guard 3 3 3 3 3 8;guard 5 5 5 5 5 9;");
+        int[] due = {5, 11, 12, 17, 18, 23, 24};
+        for (int room = 0; room < due.length; room++) {
+            Check.due("arrival(0, " + room + ", 5)", x.arrival(0, room, 5), due[room]);
+        }
+        Check.due("arrival(0, 6, 4)", x.arrival(0, 6, 4), 18);
+        // 999999 is 3 modulo 6
+        Check.due("arrival(6, 0, 999999)", x.arrival(6, 0, 999999), 1000014);
+        Check.due("arrival(0, 7, 5), against the guard", x.arrival(0, 7, 5), -1);
+    }
+
+    private static void firstMinuteOfTheLongestCycle() {
+        Check.sentence("the first minute at which this leads into the room that is wanted (once in 2520 minutes)");
+        // the guards are out of room 1 together at the last minute of the cycle alone
+        GuardWalks x = Check.loaded("house 4;door 0 1;door 1 2;door 1 3;guard 1 1 1 1 1 1 2;guard 1 1 1 1 1 1 1 2;"
+            + "guard 1 1 1 1 1 1 1 1 2;guard 1 1 1 1 1 1 1 1 1 2;");
+        Check.due("cycle", x.size(3), 2520);
+        Check.due("arrival(0, 3, 0)", x.arrival(0, 3, 0), 2520);
+        Check.due("arrival(0, 3, 2518)", x.arrival(0, 3, 2518), 2520);
+        Check.due("arrival(0, 3, 2519)", x.arrival(0, 3, 2519), 5040);
+        Check.due("arrival(0, 2, 0)", x.arrival(0, 2, 0), -1);
+        // 1000000 is 2080 modulo 2520
+        Check.due("arrival(3, 1, 1000000)", x.arrival(3, 1, 1000000), 1000439);
     }
 
     private static void beginsInTheSameRoom() {

@@ -37,6 +37,8 @@ public final class MinuteEdgesTest {
             dueRoom(x, room, 0, -1, 0, 0);
         }
         x.pass(7);
+        x.worstWith(0, 1);
+        Check.change(x, "walk 0 1");
         Check.load(x, WALK);
         Check.due("present minute after load", x.size(4), 0);
         Check.due("sightings after load", x.size(9), 0);
@@ -209,6 +211,7 @@ public final class MinuteEdgesTest {
         x.pass(5);
         Check.dueExactly("coverage() later", x.coverage(), 9.0 / 42.0);
         Check.dueExactly("coverage() of all", Check.loaded("house 1;guard 0 0;").coverage(), 1.0);
+        Check.dueExactly("coverage() of the one room at the one minute", Check.loaded("house 1;guard 0;").coverage(), 1.0);
         Check.dueExactly("coverage() of none", new GuardWalks().coverage(), 0.0);
     }
 }

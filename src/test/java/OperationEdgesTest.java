@@ -244,6 +244,9 @@ public final class OperationEdgesTest {
         GuardWalks y = Check.loaded("house 3;door 0 1;door 1 2;door 2 0;guard 0 1 2;");
         Check.due("door(2, 3)", y.door(2, 3), 1);
         Check.due("closeDoor(2)", y.closeDoor(2), -3);
+        GuardWalks ten = Check.loaded("house 3;door 0 1;door 1 2;door 2 0;guard 0 0 0 0 0 0 0 0 1 2;");
+        Check.due("door(2, 3) from the tenth room to the first one", ten.door(2, 3), 1);
+        Check.due("closeDoor(2) from the tenth room to the first one", ten.closeDoor(2), -3);
         Check.due("each counts once", Check.loaded("house 2;door 0 1;guard 0 1 0 1 0 1;").door(0, 3), 1);
         Check.due("a closed door between them", Check.loaded("house 2;door 0 1;door 1 0 closed;guard 0 1;").door(1, 3), 1);
     }
@@ -251,7 +254,9 @@ public final class OperationEdgesTest {
     private static void closeDoorBesideAnother() {
         Check.sentence("and there is no other open door between them");
         GuardWalks x = Check.loaded("house 3;door 0 1;door 1 0;door 0 1 closed;door 1 2;guard 0 1;");
-        Check.due("closeDoor(0)", x.closeDoor(0), 2);
+        Check.due("closeDoor(1) beside the first one", x.closeDoor(1), 2);
+        x.undo();
+        Check.due("closeDoor(0) beside the next one", x.closeDoor(0), 2);
         Check.due("closeDoor(1) beside closed ones", x.closeDoor(1), -3);
         x.openDoor(2);
         Check.due("closeDoor(1) beside an open one", x.closeDoor(1), 2);

@@ -12,6 +12,7 @@ public final class QueryEdgesTest {
         firstOfNone();
         numbersOfValues();
         roomNumbers();
+        limits();
         openDoors();
         gapIsZeroWithoutOne();
         never();
@@ -118,6 +119,9 @@ public final class QueryEdgesTest {
         Check.dueQueryError("many 1 > 10000", 2, 9);
         Check.dueQueryError("many 1 > 010000", 2, 9);
         Check.dueQueryError("many 1 = 4294967297", 2, 9);
+        Check.dueQueryError("many 1 = 99990", 2, 9);
+        Check.dueQueryError("many 99999 = 1", 2, 5);
+        Check.dueQueryError("many 00099990000 = 1", 2, 5);
         Check.dueQueryError("many 1 = 18446744073709551617", 2, 9);
         Check.dueQueryError("many -1 < 0", 1, 5);
     }
@@ -128,6 +132,16 @@ public final class QueryEdgesTest {
         for (int room = 0; room < 12; room++) {
             due(x, "first room = " + room, room);
         }
+    }
+
+    private static void limits() {
+        Check.sentence("'limit'");
+        GuardWalks x = Check.loaded("house 3;limit 1 0;limit 2 98;");
+        due(x, "first limit = 99", 0);
+        due(x, "first limit = 0", 1);
+        due(x, "first limit = 98", 2);
+        x.setLimit(0, 50);
+        due(x, "first limit = 50", 0);
     }
 
     private static void openDoors() {
@@ -251,6 +265,11 @@ public final class QueryEdgesTest {
         Check.dueQueryError("many room = not 1", 1, 12);
         Check.dueQueryError("many room not = 1", 1, 10);
         Check.dueQueryError("many room = 1 room = 2", 1, 14);
+        Check.dueQueryError("many room 1", 1, 10);
+        Check.dueQueryError("many room room", 1, 10);
+        Check.dueQueryError("fany room = 1", 1, 0);
+        Check.dueQueryError("mant room = 1", 1, 0);
+        Check.dueQueryError("girst room = 1", 1, 0);
         Check.dueQueryError("many room = 1 and and room = 2", 1, 18);
         Check.dueQueryError("many (room = 1))", 1, 15);
         Check.dueQueryError("many room = 1 )", 1, 14);

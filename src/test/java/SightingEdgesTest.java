@@ -231,6 +231,10 @@ public final class SightingEdgesTest {
         // the phases 1, 2 and 3 of guard 3 are alike
         dueBest("house 2;door 0 1;guard 0;guard 1;guard 0 0 1 1;guard 0 0 1 1 phase 3;", 0, 10, 0, 0, 0, 1);
         dueBest("house 1;guard 0 0 0 phase 2;guard 0 0 phase 1;", 0, 6, 0, 0);
+        dueBest(round + "guard 0 1 2 3;guard 0 1 2 3;guard 0 1 2 3;", 1, 0, 0, 1, 2);
+        dueBest(round + "guard 0 1 2 3;guard 0 1 2 3;guard 0 1 2 3;guard 0 1 2 3;", 0, 0, 0, 1, 2, 3);
+        // in 20 minutes guard 1 is in each room as often: 15 times it meets one of the others
+        dueBest(round + "guard 0 1 2 3;guard 2 2 3 0 1;guard 0 1 2 3;guard 0 1 2 3;", 1, 15, 0, 0, 1, 2);
     }
 
     private static void bestOfTheWalksAsTheyAre() {

@@ -43,6 +43,15 @@ public final class TextEdgesTest {
         Check.due("rooms", x.size(0), 1);
         Check.due("room(0, 0)", x.room(0, 0), 99);
         Check.dueNoSuch("room(1, 0)", () -> x.room(1, 0));
+        int[] sizes = {1, 0, 0, 1, 0, 0, 1, 0, 0, 0};
+        for (int what = 0; what < sizes.length; what++) {
+            Check.due("size(" + what + ")", x.size(what), sizes[what]);
+        }
+        Check.due("undoCount()", x.undoCount(), 0);
+        Check.due("undo()", x.undo(), -1);
+        Check.due("restoreSnapshot()", x.restoreSnapshot(), false);
+        Check.due("formattedByte(0)", x.formattedByte(0), -1);
+        Check.due("errorPosition()", x.errorPosition(), -1);
         Check.due("an empty buffer", x.feed(0, 0, 0, 0, 0), 20);
     }
 
@@ -113,6 +122,16 @@ public final class TextEdgesTest {
         Check.due("restoreSnapshot()", x.restoreSnapshot(), false);
         Check.due("isJoined(0, 1)", x.isJoined(0, 1), false);
         Check.due("bestWorst()", x.bestWorst(), 0);
+        // a house that was larger leaves nothing behind
+        Check.load(x, "house 12;door 0 1;door 1 0;guard 0 1 0 1 1;guard 0 0 0;guard 7;guard 11 11 phase 1;limit 3 3;");
+        x.pass(4);
+        x.adopt();
+        Check.due("load", Check.load(x, "house 4;guard 3;"), 4);
+        Check.due("cycle", x.size(3), 1);
+        Check.due("sightings", x.size(9), 0);
+        Check.due("query of the guards", Check.query(x, "many guards > 0"), 1);
+        Check.due("query of the limits", Check.query(x, "many limit < 99"), 0);
+        Check.due("format()", Check.formatted(x), "0! 1! 2! 3a");
     }
 
     private static void loadEmptiesTheBuffer() {
@@ -170,6 +189,13 @@ public final class TextEdgesTest {
         Check.sentence("a word is a maximal run of the letters 'a' to 'z'");
         Check.dueLoadError("houses 3;", 1, 0);
         Check.dueLoadError("hous 3;", 1, 0);
+        Check.dueLoadError("mouse 3;", 1, 0);
+        Check.dueLoadError("housf 3;", 1, 0);
+        Check.dueLoadError("house 3;moor 0 1;", 1, 8);
+        Check.dueLoadError("house 3;timit 0 1;", 1, 8);
+        Check.dueLoadError("house 3;huard 0;", 1, 8);
+        Check.dueLoadError("house 3;door 0 1 dlosed;", 1, 17);
+        Check.dueLoadError("house 3;guard 0 qhase 0;", 1, 16);
         Check.dueLoadError("ahouse 3;", 1, 0);
         Check.dueLoadError("House 3;", 1, 0);
         Check.dueLoadError("houseZ 3;", 1, 5);
@@ -361,6 +387,11 @@ public final class TextEdgesTest {
             Check.dueLoadError(JOINED + "guard 0 1 0 0 phase " + number + ";", 2, 46);
         }
         Check.dueLoadError("house 2147483648;", 2, 6);
+        Check.dueLoadError("house 120;", 2, 6);
+        Check.dueLoadError("house 99990;", 2, 6);
+        Check.dueLoadError("house 99991;", 2, 6);
+        Check.dueLoadError("house 999999999912;", 2, 6);
+        Check.dueLoadError(JOINED + "limit 0 990;", 2, 34);
         Check.dueLoadError("house 4294967299;", 2, 6);
         Check.dueLoadError(JOINED + "limit 0 4294967296;", 2, 34);
         Check.dueLoadError(JOINED + "limit 0 100;", 2, 34);
@@ -433,6 +464,8 @@ public final class TextEdgesTest {
         Check.dueLoadError(JOINED + "guard 0 1 2;", 4, 37);
         Check.dueLoadError(JOINED + "guard 0 1 2\n;", 4, 38);
         Check.dueLoadError(JOINED + "guard 0 1 2 phase 7;", 4, 38);
+        Check.dueLoadError(JOINED + "guard 0 0 0 0 0 0 0 0 1 2;", 4, 51);
+        Check.dueChangeError(JOINED + "guard 3;", "walk 0 0 0 0 0 0 0 0 0 1 2", 4, 26);
         Check.dueChangeError(JOINED + "guard 3;", "walk 0 0 1 2", 4, 12);
         Check.dueChangeError(JOINED + "guard 3;", "walk 0 0 1 2  ", 4, 14);
         Check.dueChangeError(JOINED + "guard 3;", "walk 0 0 1 2 phase 0", 4, 13);
