@@ -626,10 +626,11 @@ public final class GuardWalks {
             return Integer.bitCount(openDoors);
         }
 
+        // A query asks for this from the depth of its grammar: no further calls here.
         int countOpenDoorsOf(int room) {
             int count = 0;
             for (int d = 0; d < doors && d < MOST_DOORS; d++) {
-                if (isOpen(d) && (doorFirst[d] == room || doorSecond[d] == room)) {
+                if ((openDoors >> d & 1) != 0 && (doorFirst[d] == room || doorSecond[d] == room)) {
                     count++;
                 }
             }
@@ -734,10 +735,11 @@ public final class GuardWalks {
             return false;
         }
 
+        // No further calls here either.
         int countGuardsWalking(int room) {
             int count = 0;
             for (int guard = 0; guard < guards && guard < MOST_GUARDS; guard++) {
-                if (has(walked[guard], room)) {
+                if ((walked[guard] >> room & 1) != 0) {
                     count++;
                 }
             }
@@ -1160,48 +1162,32 @@ public final class GuardWalks {
             advance();
         }
 
+        // No range goes beyond MOST_NUMBER: a number that is greater need not grow on.
         void advance() {
             while (to >= 0 && to < limit && (bytes[to] == ' ' || bytes[to] == '\n')) {
                 to++;
             }
             from = to;
-            if (from < 0 || from >= limit) {
-                kind = END;
-            } else if (isLetter(bytes[from])) {
-                kind = WORD;
-                takeWord();
-            } else if (isDigit(bytes[from])) {
-                kind = NUMBER;
-                takeNumber();
-            } else {
-                kind = SIGN;
-                to++;
-            }
-        }
-
-        private void takeWord() {
-            while (to >= 0 && to < limit && isLetter(bytes[to])) {
-                to++;
-            }
-        }
-
-        // No range goes beyond MOST_NUMBER: a number that is greater need not grow on.
-        private void takeNumber() {
             number = 0;
-            while (to >= 0 && to < limit && isDigit(bytes[to])) {
-                if (number <= MOST_NUMBER) {
+            kind = from >= 0 && from < limit ? kindOf(bytes[from]) : END;
+            if (kind == SIGN) {
+                to++;
+                return;
+            }
+            while (to >= 0 && to < limit && kindOf(bytes[to]) == kind) {
+                if (kind == NUMBER && number <= MOST_NUMBER) {
                     number = number * 10 + bytes[to] - '0';
                 }
                 to++;
             }
         }
 
-        private static boolean isLetter(int sign) {
-            return sign >= 'a' && sign <= 'z';
-        }
-
-        private static boolean isDigit(int sign) {
-            return sign >= '0' && sign <= '9';
+        /** The kind of the token that begins with this byte, if it is no blank. */
+        private static int kindOf(int sign) {
+            if (sign >= 'a' && sign <= 'z') {
+                return WORD;
+            }
+            return sign >= '0' && sign <= '9' ? NUMBER : SIGN;
         }
 
         boolean isEnd() {
